@@ -131,7 +131,7 @@ public final class RulesTest {
     }
 
     /** The first place at which the text so far begins no rule, as the library's patterns tell it; -1: a rule. */
-    private static int faultByPattern(String text) {
+    static int faultByPattern(String text) {
         for (int end = 1; end <= text.length(); end++) {
             Matcher matcher = RULE.matcher(text.substring(0, end));
             if (!matcher.matches() && !matcher.hitEnd()) {
@@ -141,7 +141,7 @@ public final class RulesTest {
         return RULE.matcher(text).matches() ? -1 : text.length();
     }
 
-    private static String randomText(Random random) {
+    static String randomText(Random random) {
         String[] keys = {"thick", "gap", "stop"};
         String[] fields = {"weight", "rank", "cell", "heat", "snow"};
         String[] joints = {" and ", " or "};
