@@ -207,15 +207,16 @@ public final class LoadsTest {
     }
 
     private static void shore() {
-        IceRoad x = road(9);
-        x.load(1, 0, 1);
-        x.run(1);
-        C.due("on the shore cell", x.of(0, 4), 2);
-        IceRoad y = road(10);
-        y.load(1, 0, 1);
-        y.load(1, 0, 0);
-        y.run(4);
-        C.due("they meet off shore", y.count(7), 2);
+        for (int depth = 9; depth <= 10; depth++) {
+            IceRoad x = road();
+            x.cell(depth, 4, false);
+            x.thick(2, 2000);
+            x.load(1, 0, 1);
+            x.load(1, 9, 0);
+            x.run(3);
+            C.due("one is on depth " + depth, x.of(0, 4), 2);
+            C.due("the other one meets it on depth " + depth, x.of(1, 4), depth == 9 ? 1 : 2);
+        }
 
         IceRoad z = new IceRoad();
         z.cell(9, 4, false);
@@ -266,6 +267,15 @@ public final class LoadsTest {
         x.run(1);
         C.due("onto it", x.of(1, 4), 0);
 
+        IceRoad d = road();
+        Check.ruleOf(d, "gap 3 if cell=1", 0, 100000);
+        d.load(1, 0, 1);
+        d.load(1, 0, 1);
+        d.run(3);
+        C.due("down holds down", d.of(1, 3), 0);
+        d.run(1);
+        C.due("for three hours", d.of(1, 4), 1);
+
         IceRoad y = new IceRoad();
         y.weather(0, 0);
         y.load(99, 0, 0);
@@ -300,18 +310,9 @@ public final class LoadsTest {
         C.due("a portage wears", x.look(2, 5), 216);
         C.due("a portage doesn't crack", x.look(2, 0), 4);
         C.due("delivered", x.count(7), 24);
+        C.due("tons", x.count(10), 216);
+        C.due("no load is on 0", x.look(0, 9), 0);
 
-        IceRoad y = new IceRoad();
-        y.thick(0, 100);
-        y.thick(1, 2000);
-        y.weather(0, 0);
-        for (int i = 0; i < 24; i++) {
-            y.load(1, 0, 0);
-        }
-        y.thick(0, 101);
-        y.run(20);
-        C.due("wear 20", y.look(0, 5), 20);
-        y.thick(0, 300);
         IceRoad z = new IceRoad();
         z.thick(0, 490);
         z.thick(1, 2000);

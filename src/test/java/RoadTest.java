@@ -78,6 +78,12 @@ public final class RoadTest {
         C.due("cells", x.count(1), 10);
         x.load(1, 0, 0);
         C.due("cell with loads ahead of full", x.cell(5, 2, false), IceRoad.NO);
+        IceRoad late = new IceRoad();
+        late.snow(40);
+        late.run(3);
+        C.due("a late cell", late.cell(3, 3, false), 2);
+        C.due("its thickness", late.look(2, 1), 0);
+        C.due("its snow", late.look(2, 2), 0);
         IceRoad y = new IceRoad();
         y.load(1, 0, 0);
         y.turn(0);

@@ -31,13 +31,17 @@ public final class RowsTest {
     private static void tear() {
         IceRoad x = new IceRoad();
         C.due("tear at first", x.tear(), 0);
+        x.tell(0, 30);
         x.tell(3, 33);
+        x.tell(47, 34);
         C.due("tear", x.tear(), 1);
         C.due("tear again", x.tear(), 0);
         C.due("torn", x.row(3), 0);
         C.due("missing", x.status(IceRoad.MISSING), 1);
         x.tell(4, 44);
         C.due("others are 0 anew", x.row(3), 0);
+        C.due("the first, too", x.row(0), 0);
+        C.due("the last, too", x.row(47), 0);
         C.due("it is there", x.status(IceRoad.MISSING), 1);
     }
 
