@@ -906,7 +906,8 @@ public final class IceRoad {
             }
             int so = 0;
             for (int i = 0; i < testCount; i++) {
-                int fact = facts[fields[i]];
+                boolean isField = fields[i] >= 0 && fields[i] < facts.length;
+                int fact = isField ? facts[fields[i]] : 0;
                 boolean isSo = signs[i] == '=' ? fact == limits[i]
                         : signs[i] == '<' ? fact < limits[i] : fact > limits[i];
                 so += isSo ? 1 : 0;

@@ -1,3 +1,5 @@
+import java.util.List;
+
 /** Compares answers with those that are due, and ends a test with exit code 1 if one was wrong. */
 final class Check {
     private final String name;
@@ -13,6 +15,20 @@ final class Check {
         if (got != want) {
             wrong++;
             System.out.println(name + ": " + call + " answered " + got + ", due is " + want);
+        }
+    }
+
+    /** Tells the first line alone that is another one: those behind it mostly follow from it. */
+    void same(String when, List<String> got, List<String> want) {
+        seen++;
+        for (int i = 0; i < Math.max(got.size(), want.size()); i++) {
+            String a = i < got.size() ? got.get(i) : "nothing";
+            String b = i < want.size() ? want.get(i) : "nothing";
+            if (!a.equals(b)) {
+                wrong++;
+                System.out.println(name + ": " + when + " was seen " + a + ", due is " + b);
+                return;
+            }
         }
     }
 

@@ -3,14 +3,18 @@ import java.util.Random;
 /** Random runs of calls on new objects: each answer, and what can be seen at the end, against the model's. */
 public final class ModelTest {
     private static final Check C = new Check("ModelTest");
-    private static final int RUNS = 3000;
-    private static final int CALLS = 300;
+    private static final int RUNS = 6000;
+    /** What later calls of an object answer is free. */
+    private static final int CALLS = 512;
+    /** The calls that one step may take: a rule's text is fed four bytes at a time. */
+    private static final int STEP = 24;
 
     private final Random random;
     private final IceRoad road = new IceRoad();
     private final Model model = new Model();
     private final String name;
     private final long[] seen;
+    private int calls = 0;
 
     private ModelTest(int run, long[] seen) {
         this.random = new Random(run * 7919L + 5);
@@ -32,13 +36,18 @@ public final class ModelTest {
 
     private void play() {
         layRoad();
-        for (int i = 0; i < CALLS; i++) {
+        for (int i = 0; i < CALLS && calls + STEP + callsToCompareAll() <= CALLS; i++) {
             call();
         }
         compareAll();
+        C.due(name + "calls", calls <= CALLS ? 1 : 0, 1);
         for (int state = 0; state < seen.length; state++) {
-            seen[state] += road.count(5 + state);
+            seen[state] += model.count(5 + state);
         }
+    }
+
+    private int callsToCompareAll() {
+        return 10 * model.count(1) + 7 * model.count(2) + 2 * 48 + 11 + 7;
     }
 
     private void layRoad() {
@@ -57,6 +66,7 @@ public final class ModelTest {
     }
 
     private void due(String call, int got, int want) {
+        calls++;
         C.due(name + call, got, want);
     }
 
@@ -166,8 +176,8 @@ public final class ModelTest {
             case 2: {
                 due("wipe", road.wipe(), model.wipe());
                 String text = ruleText();
-                for (int i = 0; i < text.length(); i++) {
-                    due("feed", road.feed(text.charAt(i), 1), model.feed(text.charAt(i), 1));
+                for (int at = 0; at < text.length(); at += 4) {
+                    feed(text.substring(at, Math.min(at + 4, text.length())));
                 }
                 int from = some(0, 100);
                 int to = random.nextBoolean() ? some(0, 400) : some(99900, 100000);
@@ -186,6 +196,14 @@ public final class ModelTest {
                 due("count " + what, road.count(what), model.count(what));
             }
         }
+    }
+
+    private void feed(String bytes) {
+        int number = 0;
+        for (int i = 0; i < bytes.length(); i++) {
+            number = number << 8 | bytes.charAt(i);
+        }
+        due("feed '" + bytes + "'", road.feed(number, bytes.length()), model.feed(number, bytes.length()));
     }
 
     /** A text of small numbers as often as one with odd ones, so that rules hold as often as not. */
