@@ -72,6 +72,7 @@ public final class LoadsEdgesTest {
         C.due("the last one's rank", x.of(23, 1), 3);
         C.due("the last one's way", x.of(23, 2), 1);
         S.refused("a 25th", Scenes::allLoads, y -> y.load(1, 9, 1), IceRoad.FULL);
+        S.refused("a 25th in the busy scene", Scenes::busyAllLoads, y -> y.load(1, 9, 1), IceRoad.FULL);
         S.refused("a 25th of weight 0", Scenes::allLoads, y -> y.load(0, 9, 1), IceRoad.NO);
         S.refused("a 25th of rank 10", Scenes::allLoads, y -> y.load(1, 10, 1), IceRoad.NO);
         S.refused("a 25th of way 2", Scenes::allLoads, y -> y.load(1, 9, 2), IceRoad.NO);

@@ -110,6 +110,9 @@ public final class RoadEdgesTest {
             S.refused("cell with a load of state " + state, scene, y -> y.cell(20, 1, false), IceRoad.NO);
             S.refused("portage with a load of state " + state, scene, y -> y.cell(20, 1, true), IceRoad.NO);
         }
+        S.refused("cell in the busy scene", Scenes::busy, y -> y.cell(20, 1, false), IceRoad.NO);
+        S.refused("cell of depth 61 in the busy scene", Scenes::busy, y -> y.cell(61, 1, false), IceRoad.NO);
+        S.refused("cell of length 5 in the busy scene", Scenes::busy, y -> y.cell(20, 5, true), IceRoad.NO);
         IceRoad x = new IceRoad();
         x.load(100, 0, 0);
         C.due("a load that was refused isn't there", x.cell(20, 1, false), 2);
@@ -362,6 +365,7 @@ public final class RoadEdgesTest {
             S.refused("bypass(" + cell + ")", Scenes::busy, y -> y.bypass(cell), IceRoad.BEYOND);
         }
         S.refused("bypass under a load", RoadEdgesTest::crackedUnderLoad, y -> y.bypass(0), IceRoad.NO);
+        S.refused("bypass under a load, busy", Scenes::busyUnderLoad, y -> y.bypass(3), IceRoad.NO);
         IceRoad x = new IceRoad();
         crackedUnderLoad(x);
         C.due("wear by the load", x.look(0, 5), 9);

@@ -140,6 +140,7 @@ public final class RulesEdgesTest {
             C.due("it says", x.said(0, 0, 1), i + 2);
         }
         S.refused("an eleventh, with a fault", Scenes::allRules, y -> y.rule(0, 1), IceRoad.FULL);
+        S.refused("an eleventh in the busy scene", Scenes::busyAllRules, y -> y.rule(0, 1), IceRoad.FULL);
         S.refused("an eleventh, without one", y -> {
             Scenes.allRules(y);
             Check.type(y, "nk=1");

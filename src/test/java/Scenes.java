@@ -78,6 +78,34 @@ final class Scenes {
         Check.type(x, "stop 1 if ra");
     }
 
+    /** The busy scene with as many loads as there may be; all that came late are turned back. */
+    static void busyAllLoads(IceRoad x) {
+        busy(x);
+        for (int l = 5; l < 24; l++) {
+            x.load(1, 0, 1);
+            x.turn(l);
+        }
+    }
+
+    /** The busy scene with as many rules as there may be. */
+    static void busyAllRules(IceRoad x) {
+        busy(x);
+        x.wipe();
+        for (int i = 2; i < 10; i++) {
+            Check.type(x, "gap 9");
+            x.rule(99, 100);
+        }
+        Check.type(x, "stop 1 if ra");
+    }
+
+    /** The busy scene with another load on its cracked cell 3, which bears it. */
+    static void busyUnderLoad(IceRoad x) {
+        busy(x);
+        x.thick(3, 1501);
+        x.load(9, 9, 1);
+        x.run(2);
+    }
+
     /** Ten rules, and a tape that would be an eleventh. */
     static void allRules(IceRoad x) {
         x.load(5, 5, 0);
