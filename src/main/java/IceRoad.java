@@ -66,8 +66,8 @@ public final class IceRoad {
     private final Load[] moving = new Load[MAX_LOADS];
     private final Rule[] rules = new Rule[MAX_RULES];
     private final Weather hours = new Weather();
-    private final Tape tape = new Tape();
-    private final RuleReader reader = new RuleReader(tape);
+    private final RuleReader reader = new RuleReader();
+    private final Tape tape = reader.tape;
     private final int[] numbers = new int[ROW_LENGTH];
     private final int[] refusals = new int[MISSING - FULL + 1];
     /** What the fields of tests stand for, while rules are asked; kept so that asking makes no objects. */
@@ -921,13 +921,10 @@ public final class IceRoad {
      * at which reading stops is always the first byte with which no rule begins so.
      */
     private static final class RuleReader {
-        private final Tape tape;
+        /** Made here, so that no constructor hands out a part of the object that it makes. */
+        final Tape tape = new Tape();
         /** Where reading stands; behind a text that is no rule, its fault. */
         int place = 0;
-
-        RuleReader(Tape tape) {
-            this.tape = tape;
-        }
 
         boolean takeRule(Rule rule) {
             place = 0;

@@ -6,6 +6,7 @@ import java.nio.file.Files;
 import java.nio.file.Path;
 import java.util.Set;
 import java.util.TreeSet;
+import java.util.regex.Matcher;
 import java.util.regex.Pattern;
 
 /** The public face of the class, and the words that LANGUAGE.md keeps out of it. */
@@ -32,7 +33,10 @@ public final class FaceTest {
     public static void main(String[] args) throws Exception {
         constants();
         methods();
+        sizes(IceRoad.class);
         words();
+        news();
+        methodLengths();
         C.end();
     }
 
@@ -79,12 +83,59 @@ public final class FaceTest {
             int modifiers = inside.getModifiers();
             C.due(inside.getName() + " is static", modifiers & Modifier.STATIC, Modifier.STATIC);
             C.due(inside.getName() + " is not public", modifiers & Modifier.PUBLIC, 0);
+            for (Method method : inside.getDeclaredMethods()) {
+                String name = inside.getName() + "." + method.getName();
+                C.due(name + " bears the name of a call", names.contains(method.getName()) ? 1 : 0, 0);
+            }
+            sizes(inside);
+        }
+        C.due("at most twelve classes", IceRoad.class.getDeclaredClasses().length < 12 ? 1 : 0, 1);
+    }
+
+    /** Rule 11: seven parameters and some twenty fields at most; rule 5: static fields are final. */
+    private static void sizes(Class<?> seen) {
+        int fields = 0;
+        for (Field field : seen.getDeclaredFields()) {
+            fields += Modifier.isStatic(field.getModifiers()) ? 0 : 1;
+            boolean isState = Modifier.isStatic(field.getModifiers()) && !Modifier.isFinal(field.getModifiers());
+            C.due(field + " is static state", isState ? 1 : 0, 0);
+        }
+        C.due(seen.getName() + " has at most twenty fields", fields <= 20 ? 1 : 0, 1);
+        for (Method method : seen.getDeclaredMethods()) {
+            C.due(method + " takes at most seven", method.getParameterCount() <= 7 ? 1 : 0, 1);
         }
     }
 
-    private static void words() throws Exception {
+    private static String code() throws Exception {
         String text = Files.readString(Path.of("src/main/java/IceRoad.java"));
-        String code = text.replaceAll("(?s)/\\*.*?\\*/", "").replaceAll("//[^\n]*", "");
+        return text.replaceAll("(?s)/\\*.*?\\*/", "").replaceAll("//[^\n]*", "");
+    }
+
+    /** All calls of a run live in one room, so objects are made with the road alone: in fields and its constructor. */
+    private static void news() throws Exception {
+        boolean isConstructor = false;
+        for (String line : code().split("\n")) {
+            isConstructor = line.equals("    public IceRoad() {") || isConstructor && !line.equals("    }");
+            boolean isField = line.matches(" +(private )?final \\S+ \\w+ = new .*");
+            boolean makes = line.matches(".*\\bnew\\b.*");
+            C.due("'" + line.trim() + "' makes an object", makes && !isField && !isConstructor ? 1 : 0, 0);
+        }
+    }
+
+    /** Rule 11: methods have some sixty lines at most. */
+    private static void methodLengths() throws Exception {
+        Matcher method = Pattern.compile("(?ms)^( {4}| {8})[^ }][^;]*?\\) \\{\n.*?^\\1}").matcher(code());
+        int methods = 0;
+        while (method.find()) {
+            methods++;
+            String[] lines = method.group().split("\n");
+            C.due("'" + lines[0].trim() + "' has at most sixty lines", lines.length <= 60 ? 1 : 0, 1);
+        }
+        C.due("methods were seen", methods >= METHODS.length ? 1 : 0, 1);
+    }
+
+    private static void words() throws Exception {
+        String code = code();
         for (String word : RULED_OUT) {
             String whole = Character.isLetter(word.charAt(0)) ? "\\b" + word + "\\b" : word;
             C.due("'" + word + "' stands in the class", Pattern.compile(whole).matcher(code).find() ? 1 : 0, 0);
